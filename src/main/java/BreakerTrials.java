@@ -51,7 +51,6 @@ public final class BreakerTrials {
     private static final int DIGEST_TICKS = 3;
     private static final int DOUBLE_BIAS = 1023;
     private static final int DOUBLE_FRACTION_BITS = 52;
-    private static final double DOUBLE_FRACTION_UNITS = 4503599627370496.0;
 
     private final State now = new State();
     private final State forecast = new State();
@@ -272,7 +271,8 @@ public final class BreakerTrials {
             scaled = scaled * 2.0;
             exponent--;
         }
-        return (exponent << DOUBLE_FRACTION_BITS) + (long) ((scaled - 1.0) * DOUBLE_FRACTION_UNITS);
+        double fraction = (scaled - 1.0) * (double) (1L << DOUBLE_FRACTION_BITS);
+        return (exponent << DOUBLE_FRACTION_BITS) + (long) fraction;
     }
 
     private int counted(int what) {
@@ -348,7 +348,8 @@ public final class BreakerTrials {
         int lastCut;
         // A call counts for the window of the closing under which it was let through alone.
         int closings;
-        // One bit an outcome, 1 for a bad one, the latest the lowest: a smaller window needs no move.
+        // One bit an outcome, 1 for a bad one, the latest the lowest, 0 where none is known:
+        // so the window can shrink and grow without a move.
         int outcomes;
         int knownOutcomes;
         int letThrough;
@@ -396,14 +397,11 @@ public final class BreakerTrials {
         }
 
         int windowSize(int window) {
-            if (breaker != CLOSED) {
-                return 0;
-            }
-            return knownOutcomes < window ? knownOutcomes : window;
+            return breaker == CLOSED ? Math.min(knownOutcomes, window) : 0;
         }
 
         int badInWindow(int window) {
-            return Integer.bitCount(outcomes & ((1 << windowSize(window)) - 1));
+            return breaker == CLOSED ? Integer.bitCount(outcomes & ((1 << window) - 1)) : 0;
         }
 
         void noteOutcome(boolean bad) {
@@ -433,7 +431,6 @@ public final class BreakerTrials {
             }
             ticksLeft--;
             if (ticksLeft <= 0) {
-                ticksLeft = 0;
                 breaker = TRIES;
             }
         }
@@ -555,7 +552,9 @@ public final class BreakerTrials {
             for (int place = 0; place < before; place++) {
                 calls[TO_GO][place]--;
                 if (calls[TO_GO][place] > 0) {
-                    moveCall(place, kept);
+                    if (kept < place) {
+                        moveCall(place, kept);
+                    }
                     kept++;
                 } else {
                     Store answering = stores[calls[OF_STORE][place]];
@@ -610,7 +609,7 @@ public final class BreakerTrials {
         void settleInWindow(Store store, boolean bad) {
             store.noteOutcome(bad);
             int window = settings[WINDOW];
-            if (store.windowSize(window) == window && store.badInWindow(window) >= settings[TOO_MANY_BAD]) {
+            if (store.knownOutcomes >= window && store.badInWindow(window) >= settings[TOO_MANY_BAD]) {
                 store.cutOff(settings[FIRST_CUT]);
             }
         }
