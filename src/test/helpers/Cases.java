@@ -9,6 +9,10 @@ import java.util.List;
 
 /** Runs the methods of a class that are marked as a Case, and sees that the document says what they quote. */
 final class Cases {
+    /** The sentence of the document that many promises share. */
+    static final String FIRST_NAMED =
+            "If several exceptions apply, the one that is named first in the throws clause is thrown.";
+
     private Cases() {
     }
 
@@ -26,7 +30,7 @@ final class Cases {
                 failed++;
             }
         }
-        System.out.println(tests.getSimpleName() + ": " + (cases.size() - failed) + " cases hold, " + failed + " do not");
+        System.out.println(tests.getSimpleName() + ": " + cases.size() + " cases, " + failed + " do not hold");
         if (failed != 0) {
             System.exit(1);
         }

@@ -65,7 +65,8 @@ public final class BreakerCases {
 
     // ---- Promise 2: the window
 
-    @Case(promise = 2, says = "If there are setting 1 of them, and at least setting 2 are bad, behind an outcome, it cuts off")
+    @Case(promise = 2, says = "If there are setting 1 of them, and at least setting 2 are bad, "
+            + "behind an outcome, it cuts off")
     static void oneOutcomeTooFew() {
         BreakerTrials x = new BreakerTrials();
         Checks.bring(x, 0, "bbb");
@@ -635,7 +636,7 @@ public final class BreakerCases {
         }
     }
 
-    @Case(promise = 6, says = "If several exceptions apply, the one that is named first in the throws clause is thrown.")
+    @Case(promise = 6, says = Cases.FIRST_NAMED)
     static void setOfNoSettingNoValue() {
         BreakerTrials x = new BreakerTrials();
         Checks.dueThrow(x, "set(5, 0)", () -> x.set(5, 0), Checks.INDEX);
@@ -782,6 +783,20 @@ public final class BreakerCases {
         Checks.due("the second", x.onWay(1, 2), 2);
         Checks.due("no third", x.onWay(2, 2), BreakerTrials.NONE);
         Checks.due("their ticks", x.onWay(0, 1) * 10 + x.onWay(1, 1), 21);
+    }
+
+    @Case(promise = 7, says = "in the order in which they were let through")
+    static void theOrderOfTheStoresStaysToo() {
+        BreakerTrials x = Checks.withRow(2, "1");
+        int[] stores = {3, 2, 1, 2, 0};
+        for (int store : stores) {
+            x.call(store);
+        }
+        Checks.due("answered", x.pass(1), 2);
+        int[] left = {3, 1, 0, BreakerTrials.NONE};
+        for (int place = 0; place < left.length; place++) {
+            Checks.due("store of " + place, x.onWay(place, 0), left[place]);
+        }
     }
 
     @Case(promise = 7, says = "(A breaker that begins to cut off in a tick has one tick less to go in the same one.)")

@@ -1,5 +1,7 @@
 /** Boundary cases of promises 1 to 4: a new object, call, callOften, callHealthiest. */
 public final class CallCases {
+    private static final String ENDS =
+            "it ends ahead of the first call that would be let through while 16 calls are on their way";
     private static final String TWENTY = "1,2,3,4,5,6,7,8,9,10,11,12,13,14,15,16,17,18,19,20";
 
     // ---- Promise 1: a new object
@@ -90,10 +92,10 @@ public final class CallCases {
     static void the512thCall() {
         BreakerTrials x = new BreakerTrials();
         for (int made = 0; made < 510; made++) {
-            x.callOften(made % 4, 50, 50);
+            x.callOften(3, 50, 50);
         }
         Checks.due("call 511: ticks", x.count(0), 510 * 50 * 50);
-        Checks.due("call 512: calls that were let through", x.count(2), 510 * 50);
+        Checks.due("call 512: calls of the store that were let through", x.store(3, 5), 510 * 50);
     }
 
     // ---- Promise 2: call
@@ -141,6 +143,17 @@ public final class CallCases {
         Checks.due("undo", x.undo(), 3);
         Checks.due("refused so far", x.store(0, 6), 0);
         Checks.due("it still cuts off", x.store(0, 0), 1);
+    }
+
+    @Case(promise = 2, says = "Calls a store. Undoable.")
+    static void callThatIsLetThroughIsUndoable() {
+        BreakerTrials x = Checks.trying("6,7");
+        long before = x.digest();
+        x.call(0);
+        x.call(1);
+        Checks.due("undo", x.undo(), 5);
+        Checks.due("undo", x.undo(), 4);
+        Checks.due("digest", x.digest(), before);
     }
 
     @Case(promise = 2, says = "each call that is let through takes the next delay of the row")
@@ -228,7 +241,8 @@ public final class CallCases {
         }
     }
 
-    @Case(promise = 2, says = "Throws `IllegalStateException` if it would be let through, and 16 calls are on their way")
+    @Case(promise = 2, says = "Throws `IllegalStateException` if it would be let through, "
+            + "and 16 calls are on their way")
     static void roomComesBackWithAnAnswer() {
         BreakerTrials x = Checks.withRow(0, "1,99");
         x.call(0);
@@ -274,7 +288,7 @@ public final class CallCases {
         Checks.due("call while the trial is on its way", y.call(0), 0);
     }
 
-    @Case(promise = 2, says = "If several exceptions apply, the one that is named first in the throws clause is thrown.")
+    @Case(promise = 2, says = Cases.FIRST_NAMED)
     static void noStoreAndNoRoom() {
         BreakerTrials x = Checks.full();
         Checks.dueThrow(x, "call(4)", () -> x.call(4), Checks.INDEX);
@@ -292,7 +306,7 @@ public final class CallCases {
         }
     }
 
-    @Case(promise = 3, says = "If several exceptions apply, the one that is named first in the throws clause is thrown.")
+    @Case(promise = 3, says = Cases.FIRST_NAMED)
     static void callOftenOfNoStoreNoTimes() {
         BreakerTrials x = new BreakerTrials();
         Checks.dueThrow(x, "callOften(4, 0, 0)", () -> x.callOften(4, 0, 0), Checks.INDEX);
@@ -347,7 +361,7 @@ public final class CallCases {
         Checks.due("refused so far", x.store(0, 6), 3);
     }
 
-    @Case(promise = 3, says = "it ends ahead of the first call that would be let through while 16 calls are on their way")
+    @Case(promise = 3, says = ENDS)
     static void endsAheadOfThe17th() {
         BreakerTrials x = Checks.withRow(2, "99");
         Checks.due("callOften", x.callOften(2, 50, 2), 16);
@@ -356,7 +370,7 @@ public final class CallCases {
         Checks.due("on their way", x.count(1), 16);
     }
 
-    @Case(promise = 3, says = "it ends ahead of the first call that would be let through while 16 calls are on their way")
+    @Case(promise = 3, says = ENDS)
     static void endsAheadOfTheFirst() {
         BreakerTrials x = Checks.full();
         long saved = x.count(8);
@@ -368,7 +382,7 @@ public final class CallCases {
         Checks.due("nothing is let through", x.store(0, 5), 0);
     }
 
-    @Case(promise = 3, says = "it ends ahead of the first call that would be let through while 16 calls are on their way")
+    @Case(promise = 3, says = ENDS)
     static void refusedCallsGoOnUntilTheTrialHasNoRoom() {
         BreakerTrials x = Checks.fill(Checks.cutOff("3"));
         Checks.due("callOften", x.callOften(0, 50, 2), 0);
@@ -377,7 +391,7 @@ public final class CallCases {
         Checks.due("it tries", x.store(0, 0), 2);
     }
 
-    @Case(promise = 3, says = "it ends ahead of the first call that would be let through while 16 calls are on their way")
+    @Case(promise = 3, says = ENDS)
     static void goesOnIfTicksMakeRoom() {
         BreakerTrials x = Checks.withRow(0, "16");
         Checks.due("never more than 16", x.callOften(0, 50, 1), 50);
@@ -431,6 +445,16 @@ public final class CallCases {
         Checks.due("digest", x.digest(), before);
         x.undo();
         Checks.due("the state of the call before", x.count(6), 1);
+    }
+
+    @Case(promise = 4, says = "Calls the healthiest store, by healthiest(). Undoable.")
+    static void callHealthiestIsUndoable() {
+        BreakerTrials x = new BreakerTrials();
+        x.call(0);
+        long before = x.digest();
+        Checks.due("callHealthiest", x.callHealthiest(), 1);
+        Checks.due("undo", x.undo(), 1);
+        Checks.due("digest", x.digest(), before);
     }
 
     @Case(promise = 4, says = "Returns the store;")

@@ -14,7 +14,7 @@ public final class ForecastCases {
         }
     }
 
-    @Case(promise = 18, says = "If several exceptions apply, the one that is named first in the throws clause is thrown.")
+    @Case(promise = 18, says = Cases.FIRST_NAMED)
     static void ifCalledOfNoStoreAndMore() {
         BreakerTrials x = new BreakerTrials();
         Checks.dueThrow(x, "ifCalled(4, 0, 0, 0)", () -> x.ifCalled(4, 0, 0, 0), Checks.INDEX);
@@ -96,6 +96,15 @@ public final class ForecastCases {
         Checks.due("tries 10 ticks behind 4", x.ifCalled(0, 4, 10, 3), 2);
         Checks.due("closed 10 ticks behind the trial", x.ifCalled(0, 5, 10, 3), 0);
         Checks.due("of the store that is asked", Checks.cutOff("5").ifCalled(1, 1, 0, 3), 0);
+    }
+
+    @Case(promise = 18, says = "3: what the breaker of the store would be then")
+    static void ifCalledMindsTheCallsOnTheirWay() {
+        BreakerTrials x = Checks.withRow(2, "0,0,0,7,9");
+        x.callOften(2, 4, 0);
+        Checks.due("three bad outcomes, a call on its way", x.ifCalled(2, 1, 6, 3), 0);
+        Checks.due("the fourth outcome is its", x.ifCalled(2, 1, 7, 3), 1);
+        Checks.due("that of another store", x.ifCalled(0, 1, 7, 3), 0);
     }
 
     @Case(promise = 18, says = "what would be; nothing is changed.")

@@ -30,7 +30,7 @@ public final class LookCases {
         }
     }
 
-    @Case(promise = 13, says = "If several exceptions apply, the one that is named first in the throws clause is thrown.")
+    @Case(promise = 13, says = Cases.FIRST_NAMED)
     static void storeOfNoStoreAndNoNumber() {
         BreakerTrials x = new BreakerTrials();
         Checks.dueThrow(x, "store(4, 11)", () -> x.store(4, 11), Checks.INDEX);
@@ -86,7 +86,8 @@ public final class LookCases {
         Checks.due("closed", new BreakerTrials().store(0, 3), 0);
     }
 
-    @Case(promise = 13, says = "4: ticks for which it was cut off the last time, 0 if it never was since it was closed;")
+    @Case(promise = 13, says = "4: ticks for which it was cut off the last time, "
+            + "0 if it never was since it was closed;")
     static void ticksOfTheLastCut() {
         Checks.due("never", new BreakerTrials().store(0, 4), 0);
         BreakerTrials x = Checks.trying("0,5");
@@ -166,7 +167,7 @@ public final class LookCases {
         Checks.dueThrow(x, "delay(3, MIN)", () -> x.delay(3, Integer.MIN_VALUE), Checks.ARGUMENT);
     }
 
-    @Case(promise = 14, says = "If several exceptions apply, the one that is named first in the throws clause is thrown.")
+    @Case(promise = 14, says = Cases.FIRST_NAMED)
     static void delayOfNoStoreBelow0() {
         BreakerTrials x = new BreakerTrials();
         Checks.dueThrow(x, "delay(4, -1)", () -> x.delay(4, -1), Checks.INDEX);
@@ -380,6 +381,29 @@ public final class LookCases {
         }
         x.undo();
         Checks.due("setting 4 undone", x.setting(4), 80);
+    }
+
+    // ---- Promises 13 to 17: all looks
+
+    @Case(promise = 13, says = "---- looks; nothing is changed.")
+    static void looksChangeNothing() {
+        BreakerTrials x = withTrial();
+        Checks.type(x, "1,2");
+        long before = x.digest();
+        for (int what = 0; what <= 10; what++) {
+            x.store(0, what);
+        }
+        for (int what = 0; what <= 8; what++) {
+            x.count(what);
+        }
+        for (int place = 0; place <= 4; place++) {
+            x.delay(0, place);
+            x.onWay(place, 1);
+            x.setting(place);
+        }
+        Checks.due("digest", x.digest(), before);
+        Checks.due("undo", x.undo(), 4);
+        Checks.due("the state before the trial", x.count(7), 0);
     }
 
     public static void main(String[] args) throws Exception {

@@ -65,7 +65,7 @@ public final class TextCases {
         Checks.due("append behind clearBuffer", x.append('1'), 1);
     }
 
-    @Case(promise = 8, says = "If several exceptions apply, the one that is named first in the throws clause is thrown.")
+    @Case(promise = 8, says = Cases.FIRST_NAMED)
     static void codeTooSmallAndNoRoom() {
         BreakerTrials x = typed("1".repeat(60));
         Checks.dueThrow(x, "append(32)", () -> x.append(32), Checks.ARGUMENT);
@@ -234,7 +234,7 @@ public final class TextCases {
         Checks.due("the buffer is not cleared", x.clearBuffer(), 3);
     }
 
-    @Case(promise = 11, says = "If several exceptions apply, the one that is named first in the throws clause is thrown.")
+    @Case(promise = 11, says = Cases.FIRST_NAMED)
     static void delaysOfNoStoreAndNoText() {
         BreakerTrials x = new BreakerTrials();
         Checks.dueThrow(x, "delays(4) of nothing", () -> x.delays(4), Checks.INDEX);
@@ -510,6 +510,23 @@ public final class TextCases {
         x.undo();
         x.pass(7);
         Checks.due("let through since it was closed", x.store(0, 1), 1);
+    }
+
+    @Case(promise = 12, says = "Restores the latest saved state")
+    static void undoBringsBackTheCallsOnTheirWay() {
+        BreakerTrials x = Checks.trying("9");
+        x.call(3);
+        x.pass(2);
+        x.call(0);
+        x.pass(20);
+        x.call(1);
+        x.undo();
+        x.undo();
+        int[] want = {3, 3, 5, 0, 0, 9, 9, 1};
+        for (int i = 0; i < want.length; i++) {
+            Checks.due("onWay(" + i / 4 + ", " + i % 4 + ")", x.onWay(i / 4, i % 4), want[i]);
+        }
+        Checks.due("no third", x.onWay(2, 0), BreakerTrials.NONE);
     }
 
     public static void main(String[] args) throws Exception {
